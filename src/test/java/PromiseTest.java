@@ -875,6 +875,8 @@ public final class PromiseTest {
         Due.same("back to 0", x.move(0, 3, 2, 0, 0), 0);
         Due.same("position", x.position(0, 0), 0);
         Due.same("position", x.position(0, 1), Integer.MAX_VALUE);
+        x.member(3, 0);
+        Due.same("the least member's", x.move(3, 0, 1, 1, 4), 0);
     }
 
     private static void position() {
@@ -925,6 +927,14 @@ public final class PromiseTest {
         Due.same("the leader stays", x.tick(50), 0);
         Due.same("NOW", x.count(0), 111);
         Due.same("the leader's own", x.log(0, 0, 5), 0);
+        TallyLogs y = new TallyLogs();
+        y.crash(0, 0);
+        y.create(0, 3, 1);
+        y.restart(0);
+        y.follow(0, 0);
+        dueState(y, 0, 1, 0, 3, 0);
+        Due.same("a node below the leader", y.tick(11), 1);
+        dueState(y, 0, 1, 0, 2, 0);
     }
 
     private static void flush() {
