@@ -1,7 +1,6 @@
 /** For each promise of the document: ordinary inputs, the edges that it names, and wrong inputs. */
-public final class PromiseTest {
+public final class PromiseTest extends Steps {
     private static final int[] OUTSIDE = {-1, -2, 4, 5, 6, 8, 31, 32, 33, Integer.MAX_VALUE, Integer.MIN_VALUE};
-    private static final long NO_RECORD = 1L << 40;
 
     public static void main(String[] args) {
         newObject();
@@ -46,36 +45,6 @@ public final class PromiseTest {
         state();
         count();
         Due.end();
-    }
-
-    private static int data(TallyLogs x, int p) {
-        return x.produce(p, -1, 0, 0, 0, false);
-    }
-
-    private static void produceMany(TallyLogs x, int p, int many) {
-        for (int i = 0; i < many; i++) {
-            data(x, p);
-        }
-    }
-
-    private static void dueLog(TallyLogs x, int n, int p, int... want) {
-        String[] names = {"START", "END", "HW", "FLUSHED", "KNOWN", "CAUGHT"};
-        for (int what = 0; what < want.length; what++) {
-            Due.same("log(" + n + ", " + p + ") " + names[what], x.log(n, p, what), want[what]);
-        }
-    }
-
-    private static void dueState(TallyLogs x, int p, int... want) {
-        String[] names = {"LEADER", "EPOCH", "IN STEP", "first open"};
-        for (int what = 0; what < want.length; what++) {
-            Due.same("state(" + p + ") " + names[what], x.state(p, what), want[what]);
-        }
-    }
-
-    private static void dueSeen(TallyLogs x, int... want) {
-        for (int what = 0; what < want.length; what++) {
-            Due.same("seen(" + what + ")", x.seen(what), want[what]);
-        }
     }
 
     private static void newObject() {
