@@ -142,6 +142,18 @@ public final class ClusterEdgesTest extends Steps {
         }
     }
 
+    static void p17ANodeBelowTheLeaderGoesToo() {
+        TallyLogs x = new TallyLogs();
+        x.crash(0, 0);
+        x.create(0, 3, 1);
+        x.restart(0);
+        x.follow(0, 0);
+        dueState(x, 0, 1, 0, 3, 0);
+        Due.same("ten", x.tick(10), 0);
+        Due.same("eleven", x.tick(1), 1);
+        dueState(x, 0, 1, 0, 2, 0);
+    }
+
     static void p17HwRises() {
         TallyLogs x = made(FIVE);
         dueLog(x, 0, 0, 0, 5, 3);

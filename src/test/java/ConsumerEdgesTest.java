@@ -410,6 +410,24 @@ public final class ConsumerEdgesTest extends Steps {
         untouched("no group", GROUP, x -> x.move(4, 7, 1, 1, 5), REFUSED);
     }
 
+    static void p15TakesPartitions0To3OfGroups0To3() {
+        TallyLogs x = new TallyLogs();
+        for (int p = 0; p < 4; p++) {
+            x.create(p, 1, 1);
+        }
+        for (int group = 0; group < 4; group++) {
+            x.member(group, 6);
+            for (int p = 0; p < 4; p++) {
+                Due.same("move", x.move(group, 6, 1, p, 10 * group + p), 0);
+            }
+        }
+        for (int group = 0; group < 4; group++) {
+            for (int p = 0; p < 4; p++) {
+                Due.same("position", x.position(group, p), 10 * group + p);
+            }
+        }
+    }
+
     static void p15TakesTheLeastAndTheGreatestMember() {
         TallyLogs x = made(GROUP);
         Due.same("member 0", x.move(2, 0, 2, 1, 5), 0);
