@@ -3,7 +3,7 @@ import java.util.Random;
 /** Random runs of at most 512 calls, each answer held against the model's; and nothing may be thrown. */
 public final class ModelTest {
     private static final int RUNS = 4000;
-    private static final int CHANGES = 350;
+    private static final int CHANGES = 320;
     private static final int LOOKS = 112;
     private static final int[] ODD = {-1, -2, 4, 5, 6, 8, 31, 32, 51, 60, Integer.MAX_VALUE, Integer.MIN_VALUE};
 
